@@ -1,0 +1,99 @@
+import java.lang.reflect.Constructor;
+import java.lang.reflect.Field;
+import java.lang.reflect.Method;
+import java.lang.reflect.Modifier;
+import java.nio.file.Files;
+import java.nio.file.Path;
+import java.util.Set;
+import java.util.TreeSet;
+import java.util.regex.Matcher;
+import java.util.regex.Pattern;
+
+/** The public face, and the rules of LANGUAGE.md that can be seen from the file's words. */
+public final class FaceTest {
+    private static final Checks CHECKS = new Checks();
+
+    private static final Set<String> METHODS = Set.of(
+        "int attic(int,int)", "int make(int,int,int,boolean)", "int move(int,int,int)",
+        "int get(int,int,int,int)", "int put(int,int,int,int)", "int drop(int,int)",
+        "int store(int,int,int)", "int load(int,int,int)", "int same(int,int,int,int)",
+        "int weak(int,int,int)", "int strong(int,int,int)", "int pair(int,int,int)",
+        "int value(int,int,int)", "int wish(int,int)", "int begin()", "int sweep(int)",
+        "int under()", "int about(int,int)", "int field(int,int)", "int holder(int)",
+        "int cell(int)", "int count(int)", "int lost()", "long digest()");
+
+    private static final Set<String> CONSTANTS = Set.of("NONE", "BAD", "NO", "FULL", "LOST");
+
+    public static void main(String[] args) throws Exception {
+        methods();
+        constants();
+        constructors();
+        words();
+        CHECKS.finish();
+    }
+
+    private static void methods() {
+        Set<String> seen = new TreeSet<>();
+        for (Method method : AtticSweep.class.getDeclaredMethods()) {
+            if (method.isSynthetic()) {
+                continue;
+            }
+            int how = method.getModifiers();
+            if (Modifier.isPublic(how)) {
+                seen.add(written(method));
+            } else {
+                CHECKS.holds(method + " is private", Modifier.isPrivate(how));
+            }
+        }
+        CHECKS.holds("the methods are those of the document, not " + seen, seen.equals(METHODS));
+    }
+
+    private static String written(Method method) {
+        StringBuilder text = new StringBuilder();
+        for (Class<?> type : method.getParameterTypes()) {
+            text.append(text.length() == 0 ? "" : ",").append(type.getSimpleName());
+        }
+        return method.getReturnType().getSimpleName() + " " + method.getName() + "(" + text + ")";
+    }
+
+    private static void constants() {
+        Set<String> seen = new TreeSet<>();
+        for (Field field : AtticSweep.class.getDeclaredFields()) {
+            int how = field.getModifiers();
+            if (Modifier.isStatic(how)) {
+                CHECKS.holds(field + " is final", Modifier.isFinal(how));
+            }
+            if (Modifier.isPublic(how)) {
+                seen.add(field.getName());
+            } else {
+                CHECKS.holds(field + " is private", Modifier.isPrivate(how));
+            }
+        }
+        CHECKS.holds("the constants are those of the document, not " + seen, seen.equals(CONSTANTS));
+        CHECKS.due("NONE", AtticSweep.NONE, -1);
+        CHECKS.due("BAD", AtticSweep.BAD, -2);
+        CHECKS.due("NO", AtticSweep.NO, -3);
+        CHECKS.due("FULL", AtticSweep.FULL, -4);
+        CHECKS.due("LOST", AtticSweep.LOST, -5);
+    }
+
+    private static void constructors() {
+        Constructor<?>[] all = AtticSweep.class.getDeclaredConstructors();
+        CHECKS.due("how many constructors", all.length, 1);
+        CHECKS.due("its parameters", all[0].getParameterCount(), 0);
+        int how = AtticSweep.class.getModifiers();
+        CHECKS.holds("public and final", Modifier.isPublic(how) && Modifier.isFinal(how));
+        for (Class<?> inner : AtticSweep.class.getDeclaredClasses()) {
+            int of = inner.getModifiers();
+            CHECKS.holds(inner + " is static and not public", Modifier.isStatic(of) && !Modifier.isPublic(of));
+        }
+    }
+
+    private static void words() throws Exception {
+        String text = Files.readString(Path.of("src/main/java/AtticSweep.java"));
+        String code = text.replaceAll("(?s)/\\*.*?\\*/", "").replaceAll("//[^\n]*", "");
+        Matcher ruledOut = Pattern.compile("\\b(throw|throws|try|catch|synchronized|assert|import|package"
+            + "|equals|hashCode|toString|System\\.[a-z]+|Exception)\\b|->|::").matcher(code);
+        CHECKS.holds("no word that LANGUAGE.md rules out", !ruledOut.find());
+    }
+}
