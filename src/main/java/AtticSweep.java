@@ -823,7 +823,7 @@ public final class AtticSweep {
 
         int takeFirstWish() {
             int first = heldAt(FIRST_WISH);
-            for (int at = FIRST_WISH; at + 1 < FIRST_WISH + wishes; at++) {
+            for (int at = FIRST_WISH; at + 1 < FIRST_WISH + wishes && at + 1 < held.length; at++) {
                 held[at] = held[at + 1];
             }
             if (wishes > 0) {
