@@ -34,6 +34,8 @@ public final class FaceTest {
 
     private static void methods() {
         Set<String> seen = new TreeSet<>();
+        Set<String> hidden = new TreeSet<>();
+        Set<String> names = new TreeSet<>();
         for (Method method : AtticSweep.class.getDeclaredMethods()) {
             if (method.isSynthetic()) {
                 continue;
@@ -41,11 +43,15 @@ public final class FaceTest {
             int how = method.getModifiers();
             if (Modifier.isPublic(how)) {
                 seen.add(written(method));
+                names.add(method.getName());
             } else {
                 CHECKS.holds(method + " is private", Modifier.isPrivate(how));
+                hidden.add(method.getName());
             }
         }
         CHECKS.holds("the methods are those of the document, not " + seen, seen.equals(METHODS));
+        hidden.retainAll(names);
+        CHECKS.holds("no private method bears a public one's name, as do " + hidden, hidden.isEmpty());
     }
 
     private static String written(Method method) {
@@ -95,5 +101,6 @@ public final class FaceTest {
         Matcher ruledOut = Pattern.compile("\\b(throw|throws|try|catch|synchronized|assert|import|package"
             + "|equals|hashCode|toString|System\\.[a-z]+|Exception)\\b|->|::").matcher(code);
         CHECKS.holds("no word that LANGUAGE.md rules out", !ruledOut.find());
+        CHECKS.holds("no sign beyond 127", text.chars().allMatch(sign -> sign < 128));
     }
 }

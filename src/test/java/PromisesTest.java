@@ -1,13 +1,7 @@
 /** Each promise of the document by itself: ordinary inputs, the edges that it names, wrong inputs. */
-public final class PromisesTest {
-    private static final Checks CHECKS = new Checks();
-    private static final int NONE = -1, BAD = -2, NO = -3, FULL = -4, LOST = -5;
-    private static final int MOST = Integer.MAX_VALUE, LEAST = Integer.MIN_VALUE;
-
+public final class PromisesTest extends Scene {
     /** Numbers that are no owner, no register, no slot, no weak holder. */
     private static final int[] WRONG = {-1, 6, 7, 100, MOST, LEAST};
-
-    private static AtticSweep x;
 
     public static void main(String[] args) {
         newObject();
@@ -43,23 +37,7 @@ public final class PromisesTest {
         noteRead();
         missingNotes();
         whiteNewOnes();
-        CHECKS.finish();
-    }
-
-    private static void due(String what, long got, long want) {
-        CHECKS.due(what, got, want);
-    }
-
-    private static void fresh(int manner, int fault) {
-        x = new AtticSweep();
-        due("attic(" + manner + ", " + fault + ")", x.attic(manner, fault), 0);
-    }
-
-    /** Makes things one after the other, each with so many fields, in the registers from (0, 0) on. */
-    private static void things(int... fields) {
-        for (int thing = 0; thing < fields.length; thing++) {
-            due("make thing " + thing, x.make(thing / 4, thing % 4, fields[thing], false), thing);
-        }
+        finish();
     }
 
     private static long empty() {
@@ -318,16 +296,6 @@ public final class PromisesTest {
         lostInRegister();
         due("5: of one that is lost", x.get(1, 1, 1, 0), LOST);
         due("5: NO before LOST", x.get(1, 1, 1, 1), NO);
-    }
-
-    /** Register 1 of owner 1 holds thing 1, of one field, which the sweeper freed; nothing is under way. */
-    private static void lostInRegister() {
-        fresh(1, 2);
-        things(0);
-        x.begin();
-        due("a white one is made", x.make(1, 1, 1, false), 1);
-        x.sweep(400);
-        due("it is freed", x.about(1, 3), 1);
     }
 
     // promise 6
