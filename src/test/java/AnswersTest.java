@@ -37,6 +37,7 @@ public final class AnswersTest extends Scene {
         test("digest: of each THING about 1, 2, 3, FIELDS; holder(0) to (29); under()", AnswersTest::digestOfAll);
         test("digest: not what it does not name", AnswersTest::digestLeavesOut);
         test("digest: wraps around", AnswersTest::digestWraps);
+        test("An object is used for at most 512 calls: the last of them", AnswersTest::lastCall);
         finish();
     }
 
@@ -594,5 +595,23 @@ public final class AnswersTest extends Scene {
             h = 31 * h + NONE;
         }
         due("28 things", x.digest(), 31 * h);
+    }
+
+    private static void lastCall() {
+        for (int manner = 0; manner < 4; manner++) {
+            fresh(manner, 0);
+            things(6);
+            for (int rounds = 0; rounds < 254; rounds++) {
+                due("begin", x.begin(), manner == 0 ? 0 : 1);
+                x.sweep(400);
+            }
+            due("call 511: rounds", x.count(7), 254);
+            due("call 512: moved", x.about(0, 6), manner == 3 ? 254 : 0);
+        }
+        fresh(0, 0);
+        for (int call = 2; call < 512; call++) {
+            due("refused", x.drop(3, call), BAD);
+        }
+        due("call 512: the first thing", x.make(2, 3, 6, true), 0);
     }
 }

@@ -2,14 +2,10 @@ import java.lang.reflect.Constructor;
 import java.lang.reflect.Field;
 import java.lang.reflect.Method;
 import java.lang.reflect.Modifier;
-import java.nio.file.Files;
-import java.nio.file.Path;
 import java.util.Set;
 import java.util.TreeSet;
-import java.util.regex.Matcher;
-import java.util.regex.Pattern;
 
-/** The public face, and the rules of LANGUAGE.md that can be seen from the file's words. */
+/** The public face: what the document names, and nothing beside it. */
 public final class FaceTest {
     private static final Checks CHECKS = new Checks();
 
@@ -24,11 +20,10 @@ public final class FaceTest {
 
     private static final Set<String> CONSTANTS = Set.of("NONE", "BAD", "NO", "FULL", "LOST");
 
-    public static void main(String[] args) throws Exception {
+    public static void main(String[] args) {
         methods();
         constants();
         constructors();
-        words();
         CHECKS.finish();
     }
 
@@ -93,14 +88,5 @@ public final class FaceTest {
             int of = inner.getModifiers();
             CHECKS.holds(inner + " is static and not public", Modifier.isStatic(of) && !Modifier.isPublic(of));
         }
-    }
-
-    private static void words() throws Exception {
-        String text = Files.readString(Path.of("src/main/java/AtticSweep.java"));
-        String code = text.replaceAll("(?s)/\\*.*?\\*/", "").replaceAll("//[^\n]*", "");
-        Matcher ruledOut = Pattern.compile("\\b(throw|throws|try|catch|synchronized|assert|import|package"
-            + "|equals|hashCode|toString|System\\.[a-z]+|Exception)\\b|->|::").matcher(code);
-        CHECKS.holds("no word that LANGUAGE.md rules out", !ruledOut.find());
-        CHECKS.holds("no sign beyond 127", text.chars().allMatch(sign -> sign < 128));
     }
 }
